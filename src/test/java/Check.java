@@ -1,0 +1,54 @@
+import java.util.function.BiConsumer;
+
+/** Counts and prints the answers that are not as due. */
+final class Check {
+    private final String name;
+    private int asked;
+    private int wrong;
+
+    Check(String name) {
+        this.name = name;
+    }
+
+    void due(String call, long got, long want) {
+        asked++;
+        if (got != want) {
+            wrong++;
+            System.out.println(name + ": " + call + " answered " + got + ", due is " + want);
+        }
+    }
+
+    /** Checks that a call with wrong arguments answers its error and changes nothing, not even the history. */
+    void refused(String call, DigestCaches x, long got, long want, long digestBefore) {
+        due(call, got, want);
+        due(call + ", then digest()", x.digest(), digestBefore);
+    }
+
+    /** Prints what was found and ends the program with exit code 1 if an answer was wrong. */
+    void end() {
+        System.out.println(name + ": " + asked + " answers, " + wrong + " not as due");
+        if (wrong != 0) {
+            System.exit(1);
+        }
+    }
+
+    /** Types a text into an object whose text is empty. */
+    static DigestCaches typed(DigestCaches x, String text) {
+        x.clearText();
+        for (int i = 0; i < text.length(); i++) {
+            x.type(text.charAt(i));
+        }
+        return x;
+    }
+
+    /** Hands every ordered pair of different caches to the action. */
+    static void pairs(BiConsumer<Integer, Integer> action) {
+        for (int from = 0; from < 5; from++) {
+            for (int to = 0; to < 5; to++) {
+                if (from != to) {
+                    action.accept(from, to);
+                }
+            }
+        }
+    }
+}
