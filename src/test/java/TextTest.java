@@ -95,7 +95,7 @@ public final class TextTest {
     }
 
     /** The fault as the pattern of the whole list tells it: the first byte after which no list can follow. */
-    private static int faultByPattern(String text) {
+    static int faultByPattern(String text) {
         for (int end = 1; end <= text.length(); end++) {
             Matcher start = LIST.matcher(text.substring(0, end));
             if (!start.matches() && !start.hitEnd()) {

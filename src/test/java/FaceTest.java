@@ -1,0 +1,184 @@
+import java.io.IOException;
+import java.lang.reflect.Constructor;
+import java.lang.reflect.Field;
+import java.lang.reflect.Method;
+import java.lang.reflect.Modifier;
+import java.nio.file.Files;
+import java.nio.file.Path;
+import java.util.ArrayList;
+import java.util.Arrays;
+import java.util.List;
+import java.util.Set;
+import java.util.TreeSet;
+import java.util.regex.Matcher;
+import java.util.regex.Pattern;
+import java.util.stream.Collectors;
+
+/** The public face as the document writes it, and what a program can see of the language's rules. */
+public final class FaceTest {
+    private static final Check check = new Check("FaceTest");
+
+    public static void main(String[] args) throws IOException {
+        Path project = Path.of(args.length > 0 ? args[0] : ".");
+        Set<String> face = documentedMethods(Files.readString(project.resolve("../shared/DOC.md")));
+        methods(face);
+        constants();
+        others();
+        classesInside();
+        words(Files.readString(project.resolve("src/main/java/DigestCaches.java")));
+        neverThrows();
+        check.end();
+    }
+
+    private static void holds(String what, boolean is) {
+        check.due(what, is ? 1 : 0, 1);
+    }
+
+    private static Set<String> documentedMethods(String document) {
+        Set<String> found = new TreeSet<>();
+        Matcher line = Pattern.compile("    public (int|long) (\\w+)\\(([^)]*)\\);").matcher(document);
+        while (line.find()) {
+            String types = Arrays.stream(line.group(3).split(", *")).map(part -> part.split(" ")[0])
+                .collect(Collectors.joining(","));
+            found.add(line.group(1) + " " + line.group(2) + "(" + types + ")");
+        }
+        return found;
+    }
+
+    private static String written(Method method) {
+        String types = Arrays.stream(method.getParameterTypes()).map(Class::getName).collect(Collectors.joining(","));
+        return method.getReturnType().getName() + " " + method.getName() + "(" + types + ")";
+    }
+
+    private static void methods(Set<String> face) {
+        holds("the document has 33 methods", face.size() == 33);
+        Set<String> found = new TreeSet<>();
+        for (Method method : DigestCaches.class.getDeclaredMethods()) {
+            int modifiers = method.getModifiers();
+            if (Modifier.isPublic(modifiers)) {
+                found.add(written(method));
+                holds(method + " is not static", !Modifier.isStatic(modifiers));
+            } else {
+                holds(method + " is private", Modifier.isPrivate(modifiers));
+            }
+        }
+        holds("the public methods are " + face + ", not " + found, face.equals(found));
+    }
+
+    private static void constants() {
+        check.due("NONE", DigestCaches.NONE, -1);
+        check.due("BAD_INDEX", DigestCaches.BAD_INDEX, -2);
+        check.due("BAD_VALUE", DigestCaches.BAD_VALUE, -3);
+        check.due("BAD_STATE", DigestCaches.BAD_STATE, -4);
+        check.due("FULL", DigestCaches.FULL, -5);
+        List<String> names = new ArrayList<>();
+        for (Field field : DigestCaches.class.getDeclaredFields()) {
+            if (!Modifier.isPrivate(field.getModifiers())) {
+                names.add(field.getName());
+            }
+        }
+        holds("no other field is seen: " + names,
+            names.equals(List.of("NONE", "BAD_INDEX", "BAD_VALUE", "BAD_STATE", "FULL")));
+    }
+
+    private static void others() {
+        holds("the class is public and final", DigestCaches.class.getModifiers() == (Modifier.PUBLIC | Modifier.FINAL));
+        Constructor<?>[] made = DigestCaches.class.getDeclaredConstructors();
+        holds("one constructor", made.length == 1);
+        holds("it is public", Modifier.isPublic(made[0].getModifiers()));
+        holds("it takes nothing", made[0].getParameterCount() == 0);
+    }
+
+    private static void classesInside() {
+        Set<String> face = Arrays.stream(DigestCaches.class.getDeclaredMethods())
+            .filter(method -> Modifier.isPublic(method.getModifiers())).map(Method::getName)
+            .collect(Collectors.toSet());
+        Class<?>[] inside = DigestCaches.class.getDeclaredClasses();
+        holds("at most twelve classes", inside.length < 12);
+        fields(DigestCaches.class);
+        for (Class<?> one : inside) {
+            holds(one + " is static", Modifier.isStatic(one.getModifiers()));
+            holds(one + " is not public", !Modifier.isPublic(one.getModifiers()));
+            fields(one);
+            for (Method method : one.getDeclaredMethods()) {
+                holds(method + " bears a name of its own", !face.contains(method.getName()));
+                holds(method + " takes at most seven", method.getParameterCount() <= 7);
+            }
+        }
+    }
+
+    private static void fields(Class<?> one) {
+        Set<Class<?>> fixed = Set.of(int.class, long.class, boolean.class, char.class, String.class,
+            int[].class, long[].class, char[].class, byte[].class);
+        int own = 0;
+        for (Field field : one.getDeclaredFields()) {
+            if (Modifier.isStatic(field.getModifiers())) {
+                holds(field + " is final", Modifier.isFinal(field.getModifiers()));
+                holds(field + " is a constant", fixed.contains(field.getType()));
+            } else {
+                own++;
+            }
+        }
+        holds(one + " has at most twenty fields", own <= 20);
+    }
+
+    private static void words(String source) {
+        String code = source.replaceAll("(?s)/\\*.*?\\*/", " ").replaceAll("//[^\n]*", " ");
+        String[] refused = {"\\bthrow", "\\btry\\b", "\\bcatch\\b", "\\bsynchronized\\b", "\\bassert\\b", "->", "::",
+            "Exact\\b", "\\bpackage\\b", "\\bstatic\\s*\\{", "\\bSystem\\.(?!arraycopy\\b)", "\\bMath\\.random\\b",
+            "\\bvar\\b", "\\bprotected\\b", "\\bgoto\\b", "@"};
+        for (String word : refused) {
+            holds("the source is without " + word, !Pattern.compile(word).matcher(code).find());
+        }
+        Matcher imports = Pattern.compile("import ([^;]*);").matcher(code);
+        while (imports.find()) {
+            holds("import " + imports.group(1),
+                List.of("java.util.Arrays", "java.util.ArrayList", "java.util.List").contains(imports.group(1)));
+        }
+    }
+
+    /** Every method with every mix of extreme arguments, on objects in several states. */
+    private static void neverThrows() {
+        int[] extremes = {Integer.MIN_VALUE, -1000, -1, 0, 1, 4, 5, 8, 63, 64, 65, 99, 100, 999, 1000, 1001,
+            Integer.MAX_VALUE};
+        for (Method method : DigestCaches.class.getDeclaredMethods()) {
+            if (Modifier.isPublic(method.getModifiers())) {
+                Class<?>[] types = method.getParameterTypes();
+                int mixes = (int) Math.pow(extremes.length, types.length);
+                DigestCaches x = filled();
+                for (int mix = 0; mix < mixes; mix++) {
+                    // A new object before its calls are too many.
+                    x = mix % 300 == 299 ? filled() : x;
+                    call(x, method, types, extremes, mix);
+                }
+            }
+        }
+    }
+
+    private static DigestCaches filled() {
+        DigestCaches x = new DigestCaches();
+        for (int cache = 0; cache < 5; cache++) {
+            x.setCapacity(cache, 16 - cache);
+            for (int object = 0; object < 18; object++) {
+                x.store(cache, object + cache);
+            }
+            x.publish(cache);
+        }
+        return Check.typed(x, "0:999,1;4:0");
+    }
+
+    private static void call(DigestCaches x, Method method, Class<?>[] types, int[] extremes, int mix) {
+        Object[] arguments = new Object[types.length];
+        int left = mix;
+        for (int i = 0; i < types.length; i++) {
+            int extreme = extremes[left % extremes.length];
+            left /= extremes.length;
+            arguments[i] = types[i] == boolean.class ? (Object) (extreme > 0) : (Object) extreme;
+        }
+        try {
+            method.invoke(x, arguments);
+        } catch (ReflectiveOperationException thrown) {
+            holds(method.getName() + Arrays.toString(arguments) + " threw " + thrown.getCause(), false);
+        }
+    }
+}
