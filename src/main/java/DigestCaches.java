@@ -417,7 +417,7 @@ public final class DigestCaches {
         }
 
         int valueOf(int object, int function) {
-            if (isOutside(function, 0, MAX_FUNCTIONS - 1) || counters < 1) {
+            if (function < 0 || function >= MAX_FUNCTIONS || counters < 1) {
                 return 0;
             }
             return (object * FACTORS[function] + SHIFTS[function]) % PRIME % counters;
@@ -432,7 +432,12 @@ public final class DigestCaches {
         }
 
         boolean isIn(long mask, int object) {
-            return (bitsOf(object) & ~mask) == 0;
+            for (int function = 0; function < functions; function++) {
+                if ((mask >>> valueOf(object, function) & 1) == 0) {
+                    return false;
+                }
+            }
+            return true;
         }
 
         int chanceOf(long mask) {

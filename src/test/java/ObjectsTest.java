@@ -282,6 +282,13 @@ public final class ObjectsTest {
         check.due("wrong(1)", x.wrong(1), 0);
         check.due("wrong(5)", x.wrong(5), -2);
         check.due("wrong(-1)", x.wrong(-1), -2);
+        x.store(2, 3);
+        check.due("310, 618, 925, and not 1000", x.wrong(2), 3);
+        x.store(4, 997);
+        check.due("0, 59, 602, 823, 835", x.wrong(4), 5);
+        x.drop(4, 997);
+        x.store(4, 2);
+        check.due("999", x.wrong(4), 1);
         x.setFilters(8, 1);
         x.store(3, 0);
         for (int object : AT_ZERO) {
@@ -318,6 +325,11 @@ public final class ObjectsTest {
             x.store(0, object);
         }
         check.due("there are none", x.sized(0, 0), -1);
+        for (int object : new int[] {552, 942, 880, 561}) {
+            x.store(1, object);
+        }
+        check.due("64 counters and 4 functions", x.sized(1, 1), 644);
+        check.due("there are none", x.sized(1, 0), -1);
     }
 
     private static void sizedChangesNothing() {

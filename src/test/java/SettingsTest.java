@@ -13,6 +13,7 @@ public final class SettingsTest {
         setDistance();
         setRules();
         setRulesBounds();
+        setRulesIsUndone();
         pass();
         passIsFull();
         check.end();
@@ -207,10 +208,17 @@ public final class SettingsTest {
         check.due("setRules(0, false, 0)", x.setRules(0, false, 0), 1000);
         check.due("undo()", x.undo(), 1);
         check.due("setRules(0, true, 0)", x.setRules(0, true, 0), 1000);
-        x.undo();
-        x.undo();
-        x.request(3, 1, 0);
-        check.due("undo brings storing back", x.size(3), 1);
+    }
+
+    private static void setRulesIsUndone() {
+        DigestCaches x = new DigestCaches();
+        x.store(1, 17);
+        x.publish(1);
+        x.setRules(5, false, 0);
+        check.due("undo()", x.undo(), 2);
+        check.due("the limit is 2 again", Check.typed(x, "0:17").run(), 1);
+        check.due("storing is on again", x.size(0), 1);
+        check.due("the age is 100 again", x.setRules(100, true, 2), 100);
     }
 
     private static void pass() {
