@@ -2,6 +2,9 @@ import java.util.function.BiConsumer;
 
 /** Counts and prints the answers that are not as due. */
 final class Check {
+    /** One for all checks, so that SentencesTest can ask which words no test has quoted. */
+    static final Document DOCUMENT = new Document();
+
     private final String name;
     private int asked;
     private int wrong;
@@ -18,7 +21,18 @@ final class Check {
         }
     }
 
-    /** Checks that a call with wrong arguments answers its error and changes nothing, not even the history. */
+    void holds(String what, boolean is) {
+        due(what, is ? 1 : 0, 1);
+    }
+
+    /** What follows tests these words of a promise, or of the description (part 0). */
+    void says(int part, String... sentences) {
+        for (String words : sentences) {
+            holds("the document, part " + part + ", says: " + words, DOCUMENT.quote(part, words));
+        }
+    }
+
+    /** Checks that a call with wrong arguments answers its error and leaves the hash as it was. */
     void refused(String call, DigestCaches x, long got, long want, long digestBefore) {
         due(call, got, want);
         due(call + ", then digest()", x.digest(), digestBefore);
@@ -32,7 +46,7 @@ final class Check {
         }
     }
 
-    /** Types a text into an object whose text is empty. */
+    /** Empties the text of an object and types another one. */
     static DigestCaches typed(DigestCaches x, String text) {
         x.clearText();
         for (int i = 0; i < text.length(); i++) {

@@ -6,6 +6,11 @@ public final class ObjectsTest {
     private static final int[] AT_ZERO = {7, 15, 23, 31, 34, 42, 50, 58};
 
     public static void main(String[] args) {
+        tests();
+        check.end();
+    }
+
+    static void tests() {
         store();
         storeDropsFirst();
         drop();
@@ -20,13 +25,17 @@ public final class ObjectsTest {
         value();
         mayHold();
         chance();
+        chanceOfAllBits();
         wrong();
+        wrongOfAllBits();
         sized();
+        sizedAtEachLimit();
         sizedChangesNothing();
-        check.end();
     }
 
     private static void store() {
+        check.says(8, "Stores an object in a cache. Recorded.", "Returns the object that is dropped; NONE if none is; "
+            + "BAD_INDEX if there is no such cache; BAD_VALUE if object is out of range.");
         DigestCaches x = new DigestCaches();
         for (int object = 10; object < 18; object++) {
             check.due("store(3, " + object + ")", x.store(3, object), -1);
@@ -70,6 +79,7 @@ public final class ObjectsTest {
     }
 
     private static void drop() {
+        check.says(9, "Drops an object from a cache. Recorded.");
         DigestCaches x = new DigestCaches();
         x.store(0, 1);
         x.store(0, 2);
@@ -88,6 +98,8 @@ public final class ObjectsTest {
     }
 
     private static void dropWrong() {
+        check.says(9, "Returns how many objects it holds then; BAD_INDEX if there is no such cache; BAD_VALUE if object "
+            + "is out of range; BAD_STATE if it does not hold the object.");
         DigestCaches x = new DigestCaches();
         x.store(1, 999);
         long before = x.digest();
@@ -131,6 +143,8 @@ public final class ObjectsTest {
     }
 
     private static void rebuild() {
+        check.says(10, "Rebuilds the filter of a cache. Recorded.",
+            "Returns in how many counters it is different then; BAD_INDEX if there is no such cache.");
         DigestCaches x = new DigestCaches();
         x.setFilters(8, 1);
         x.setCapacity(2, 16);
@@ -155,6 +169,8 @@ public final class ObjectsTest {
     }
 
     private static void size() {
+        check.says(11, "Returns how many objects a cache holds.",
+            "Returns the number; BAD_INDEX if there is no such cache.");
         DigestCaches x = new DigestCaches();
         for (int i = 0; i < 10; i++) {
             check.due("size(4)", x.size(4), Math.min(8, i));
@@ -166,6 +182,7 @@ public final class ObjectsTest {
     }
 
     private static void held() {
+        check.says(12, "Returns an object that a cache holds.");
         DigestCaches x = new DigestCaches();
         x.store(1, 0);
         x.store(1, 999);
@@ -180,6 +197,8 @@ public final class ObjectsTest {
     }
 
     private static void holds() {
+        check.says(13, "Tells whether a cache holds an object.", "Returns 1 if it does, else 0; BAD_INDEX if there is no "
+            + "such cache; BAD_VALUE if object is out of range.");
         DigestCaches x = new DigestCaches();
         x.store(1, 0);
         check.due("holds(1, 0)", x.holds(1, 0), 1);
@@ -194,6 +213,7 @@ public final class ObjectsTest {
     }
 
     private static void counter() {
+        check.says(14, "Returns a counter of the filter of a cache.");
         DigestCaches x = new DigestCaches();
         x.store(0, 17);
         for (int counter = 0; counter < 32; counter++) {
@@ -210,6 +230,7 @@ public final class ObjectsTest {
     }
 
     private static void value() {
+        check.says(15, "Returns a value of a function.");
         DigestCaches x = new DigestCaches();
         x.setFilters(64, 4);
         int[][] due = {{0, 7, 19, 43, 61}, {1, 38, 12, 62, 42}, {2, 5, 5, 17, 23}, {3, 36, 62, 36, 4},
@@ -229,6 +250,8 @@ public final class ObjectsTest {
     }
 
     private static void mayHold() {
+        check.says(16, "Tells whether an object is in the bits of the filter of a cache.", "Returns 1 if it is, else 0; "
+            + "BAD_INDEX if there is no such cache; BAD_VALUE if object is out of range.");
         DigestCaches x = new DigestCaches();
         x.store(0, 17);
         check.due("mayHold(0, 17)", x.mayHold(0, 17), 1);
@@ -243,6 +266,9 @@ public final class ObjectsTest {
     }
 
     private static void chance() {
+        check.says(17, "Returns the chance of a false hit by the filter of a cache, in thousandths: 1000 * b^K / M^K, "
+            + "rounded down, where b is the number of its bits.",
+            "Returns the chance; BAD_INDEX if there is no such cache.");
         DigestCaches x = new DigestCaches();
         check.due("of an empty filter", x.chance(0), 0);
         x.store(0, 17);
@@ -270,7 +296,54 @@ public final class ObjectsTest {
         check.due("of many bits", x.chance(0), due);
     }
 
+    /** Of 8 bits none to all, by each number of functions. */
+    private static void chanceOfAllBits() {
+        for (int functions = 1; functions <= 4; functions++) {
+            DigestCaches x = new DigestCaches();
+            x.setFilters(8, functions);
+            x.setCapacity(0, 16);
+            for (int object = 0; object < 16; object++) {
+                int bits = 0;
+                for (int counter = 0; counter < 8; counter++) {
+                    bits += x.counter(0, counter) > 0 ? 1 : 0;
+                }
+                double due = Math.floor(1000 * Math.pow(bits / 8.0, functions));
+                check.due("of " + bits + " bits by " + functions, x.chance(0), (long) due);
+                x.store(0, object);
+            }
+            check.due("of all bits by " + functions, x.chance(0), 1000);
+        }
+    }
+
+    /** With all bits set every object is in them; with none, no object is. */
+    private static void wrongOfAllBits() {
+        for (int functions = 1; functions <= 4; functions++) {
+            DigestCaches x = new DigestCaches();
+            x.setFilters(8, functions);
+            check.due("of no bits", x.wrong(1), 0);
+            x.setCapacity(1, 16);
+            for (int object = 984; object < 1000; object++) {
+                x.store(1, object);
+            }
+            check.due("chance(1)", x.chance(1), 1000);
+            check.due("all but the 16", x.wrong(1), 984);
+            x.setCapacity(1, 1);
+            x.rebuild(1);
+            int due = 0;
+            for (int object = 0; object < 999; object++) {
+                boolean in = true;
+                for (int function = 0; function < functions; function++) {
+                    in &= x.counter(1, Values.value(8, object, function)) > 0;
+                }
+                due += in ? 1 : 0;
+            }
+            check.due("but for 999", x.wrong(1), due);
+        }
+    }
+
     private static void wrong() {
+        check.says(18, "Counts the objects that are in the bits of the filter of a cache, but that it does not hold.",
+            "Returns the number; BAD_INDEX if there is no such cache.");
         DigestCaches x = new DigestCaches();
         check.due("of an empty filter", x.wrong(0), 0);
         x.store(0, 17);
@@ -305,6 +378,10 @@ public final class ObjectsTest {
     }
 
     private static void sized() {
+        check.says(19, "Returns the smallest M, 8 to 64, and the smallest K for it, with which a filter of the objects "
+            + "that a cache holds would have a chance (as for chance()) of at most a limit.",
+            "Returns 10 * M + K; NONE if there are none; BAD_INDEX if there is no such cache; BAD_VALUE if limit is out "
+            + "of range.");
         DigestCaches x = new DigestCaches();
         check.due("of nothing", x.sized(0, 0), 81);
         check.due("of nothing, any chance", x.sized(0, 1000), 81);
@@ -330,6 +407,43 @@ public final class ObjectsTest {
         }
         check.due("64 counters and 4 functions", x.sized(1, 1), 644);
         check.due("there are none", x.sized(1, 0), -1);
+    }
+
+    /** Every limit, against the chance that a filter so set has, of one object and of sixteen. */
+    private static void sizedAtEachLimit() {
+        for (int many = 1; many <= 16; many += 15) {
+            int[][] chances = new int[65][5];
+            for (int counters = 8; counters <= 64; counters++) {
+                DigestCaches x = new DigestCaches();
+                x.setCapacity(2, many);
+                for (int object = 0; object < many; object++) {
+                    x.store(2, 61 * object);
+                }
+                for (int functions = 1; functions <= 4; functions++) {
+                    x.setFilters(counters, functions);
+                    chances[counters][functions] = x.chance(2);
+                }
+            }
+            DigestCaches x = new DigestCaches();
+            x.setCapacity(2, many);
+            for (int object = 0; object < many; object++) {
+                x.store(2, 61 * object);
+            }
+            for (int limit = 0; limit <= 1000; limit += limit < 300 ? 1 : 50) {
+                check.due("sized(2, " + limit + ") of " + many, x.sized(2, limit), smallest(chances, limit));
+            }
+        }
+    }
+
+    private static int smallest(int[][] chances, int limit) {
+        for (int counters = 8; counters <= 64; counters++) {
+            for (int functions = 1; functions <= 4; functions++) {
+                if (chances[counters][functions] <= limit) {
+                    return 10 * counters + functions;
+                }
+            }
+        }
+        return -1;
     }
 
     private static void sizedChangesNothing() {

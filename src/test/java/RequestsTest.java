@@ -3,6 +3,11 @@ public final class RequestsTest {
     private static final Check check = new Check("RequestsTest");
 
     public static void main(String[] args) {
+        tests();
+        check.end();
+    }
+
+    static void tests() {
         ownObject();
         otherCache();
         origin();
@@ -20,7 +25,6 @@ public final class RequestsTest {
         undoRestoresAll();
         undoKeepsFour();
         digest();
-        check.end();
     }
 
     private static void counts(DigestCaches x, int cache, int... due) {
@@ -194,6 +198,8 @@ public final class RequestsTest {
     }
 
     private static void requestWrong() {
+        check.says(25, "Makes a request. Recorded.", "Returns who served the object, 0 to 4, or 5 for the origin; "
+            + "BAD_INDEX if there is no such cache; BAD_VALUE if object or limit is out of range.");
         DigestCaches x = new DigestCaches();
         x.request(1, 5, 0);
         long before = x.digest();
@@ -208,6 +214,8 @@ public final class RequestsTest {
     }
 
     private static void way() {
+        check.says(26, "Returns the way of the latest request.", "Returns the cache; NONE if it was not at so many, or "
+            + "there was no request; BAD_VALUE if index is negative.");
         DigestCaches x = new DigestCaches();
         check.due("way(-1)", x.way(-1), -3);
         check.due("way(0) without a request", x.way(0), -1);
@@ -222,6 +230,8 @@ public final class RequestsTest {
     }
 
     private static void count() {
+        check.says(27, "Returns a count of a cache.", "Returns the count; BAD_INDEX if there is no such cache; BAD_VALUE "
+            + "if what is out of range.");
         DigestCaches x = new DigestCaches();
         x.request(0, 1, 4);
         check.due("count(0, 2)", x.count(0, 2), 1);
@@ -235,6 +245,9 @@ public final class RequestsTest {
     }
 
     private static void wouldServe() {
+        check.says(28, "Returns which cache would serve a request with the limit of 4 hops, without anything being "
+            + "changed.", "Returns who would serve it, 0 to 5; BAD_INDEX if there is no such cache; BAD_VALUE if object is "
+            + "out of range.");
         DigestCaches x = wronglyExpected(17, 1, 2, 3);
         x.store(4, 17);
         x.store(4, 18);
@@ -297,6 +310,10 @@ public final class RequestsTest {
 
     /** The due hash is made from the other answers, in the order that the document tells. */
     private static void digest() {
+        check.says(34, "Returns a hash of the state. It begins with h = 17; for each of the following numbers v, in this "
+            + "order, h becomes 31 * h + v (long arithmetic, with overflow): M, K, the time; for each cache: its capacity, "
+            + "size(), the objects that it holds, its counters, its version, the counts 0 to 6, and for each other cache "
+            + "mask() and copy() of 0 and 1.", "Returns h.");
         DigestCaches x = new DigestCaches();
         x.setFilters(64, 3);
         x.pass(12);

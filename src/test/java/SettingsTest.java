@@ -3,23 +3,31 @@ public final class SettingsTest {
     private static final Check check = new Check("SettingsTest");
 
     public static void main(String[] args) {
+        tests();
+        check.end();
+    }
+
+    static void tests() {
         newObject();
         newObjectsRules();
         setFilters();
         setFiltersForgetsDigests();
         setFiltersRebuilds();
+        setFiltersOfAllCaches();
         setCapacity();
+        setCapacityToEach();
         setLink();
         setDistance();
+        distancesAtFirst();
         setRules();
         setRulesBounds();
         setRulesIsUndone();
         pass();
         passIsFull();
-        check.end();
     }
 
     private static void newObject() {
+        check.says(1, "Creates the caches with the settings that are described, which hold nothing, and an empty text.");
         DigestCaches x = new DigestCaches();
         check.due("new digest()", x.digest(), 2999807156417103045L);
         for (int cache = 0; cache < 5; cache++) {
@@ -64,6 +72,7 @@ public final class SettingsTest {
     }
 
     private static void setFilters() {
+        check.says(2, "Returns the previous M; BAD_VALUE if an argument is out of range.");
         DigestCaches x = new DigestCaches();
         check.due("setFilters(64, 4)", x.setFilters(64, 4), 32);
         check.due("value(0, 3)", x.value(0, 3), 61);
@@ -84,6 +93,8 @@ public final class SettingsTest {
     }
 
     private static void setFiltersForgetsDigests() {
+        check.says(2, "Sets the filters of all caches: they are rebuilt, and all published masks, versions and copies "
+            + "become as at first. Recorded.");
         DigestCaches x = new DigestCaches();
         x.pass(5);
         x.store(0, 17);
@@ -118,7 +129,72 @@ public final class SettingsTest {
         check.due("counter(2, 22)", x.counter(2, 22), 1);
     }
 
+    /** Stuck counters, digests and copies of each cache, and none of them is left. */
+    private static void setFiltersOfAllCaches() {
+        DigestCaches x = new DigestCaches();
+        x.setFilters(8, 1);
+        int[] objects = Values.objectsAt(8, 1, 2, 1, 8);
+        for (int cache = 0; cache < 5; cache++) {
+            for (int object : objects) {
+                x.store(cache, object);
+            }
+            x.setCapacity(cache, 1);
+            x.publish(cache);
+            check.due("it is stuck", x.counter(cache, 2), 7);
+        }
+        check.due("setFilters(8, 1)", x.setFilters(8, 1), 8);
+        for (int cache = 0; cache < 5; cache++) {
+            check.due("rebuilt", x.counter(cache, 2), 1);
+            check.due("version(" + cache + ")", x.version(cache), 0);
+            check.due("size(" + cache + ")", x.size(cache), 1);
+        }
+        Check.pairs((at, of) -> {
+            check.due("mask as at first", x.mask(at, of), 0);
+            check.due("copy's version as at first", x.copy(at, of, 0), 0);
+            check.due("copy's time as at first", x.copy(at, of, 1), 0);
+        });
+        for (int cache = 0; cache < 5; cache++) {
+            check.due("the published mask was as at first: 1 change", x.publish(cache), 4 * 2);
+        }
+    }
+
+    /** From a full cache to each smaller capacity, and back up, which brings nothing back. */
+    private static void setCapacityToEach() {
+        for (int capacity = 1; capacity <= 16; capacity++) {
+            DigestCaches x = new DigestCaches();
+            check.due("of an empty cache", x.setCapacity(4, 16), 8);
+            for (int object = 0; object < 16; object++) {
+                x.store(4, object);
+            }
+            check.due("setCapacity(4, " + capacity + ")", x.setCapacity(4, capacity), 16);
+            check.due("size(4)", x.size(4), capacity);
+            check.due("the latest one stays", x.held(4, 0), 15);
+            check.due("the last one", x.held(4, capacity - 1), 16 - capacity);
+            check.due("the same again", x.setCapacity(4, capacity), capacity);
+            check.due("size(4)", x.size(4), capacity);
+            check.due("more room", x.setCapacity(4, 16), capacity);
+            check.due("size(4)", x.size(4), capacity);
+            check.due("other caches", x.setCapacity(3, 1), 8);
+        }
+    }
+
+    private static void distancesAtFirst() {
+        check.says(0, "Distances from caches to other ones are 0 to 99; at first the distance is the absolute value of the "
+            + "difference of their numbers.");
+        Check.pairs((from, to) -> {
+            DigestCaches x = new DigestCaches();
+            check.due("at first", x.setDistance(from, to, 99), Math.max(from, to) - Math.min(from, to));
+            check.due("too far", x.setDistance(from, to, 100), -3);
+            check.due("too near", x.setDistance(from, to, -1), -3);
+            check.due("it is 99", x.setDistance(from, to, 0), 99);
+            check.due("it is 0", x.setDistance(from, to, 0), 0);
+            check.due("the other way", x.setDistance(to, from, 1), Math.max(from, to) - Math.min(from, to));
+        });
+    }
+
     private static void setCapacity() {
+        check.says(3, "Sets the capacity of a cache; as long as it holds more objects, the last one is dropped. Recorded.",
+            "Returns the previous capacity; BAD_INDEX if there is no such cache; BAD_VALUE if capacity is out of range.");
         DigestCaches x = new DigestCaches();
         check.due("setCapacity(1, 16)", x.setCapacity(1, 16), 8);
         for (int object = 0; object < 17; object++) {
@@ -147,6 +223,8 @@ public final class SettingsTest {
     }
 
     private static void setLink() {
+        check.says(4, "Sets a link. Recorded.", "Returns 1 if it was up, else 0; BAD_INDEX if there is no such cache "
+            + "(either one); BAD_VALUE if both are the same.");
         DigestCaches x = new DigestCaches();
         check.due("setLink(0, 1, false)", x.setLink(0, 1, false), 1);
         check.due("setLink(0, 1, false) again", x.setLink(0, 1, false), 0);
@@ -164,6 +242,9 @@ public final class SettingsTest {
     }
 
     private static void setDistance() {
+        check.says(5, "Sets the distance from a cache to another one. Recorded.", "Returns the previous distance; "
+            + "BAD_INDEX if there is no such cache (either one); BAD_VALUE if both are the same, or distance is out of "
+            + "range.");
         DigestCaches x = new DigestCaches();
         check.due("setDistance(0, 4, 99)", x.setDistance(0, 4, 99), 4);
         check.due("setDistance(0, 4, 0)", x.setDistance(0, 4, 0), 99);
@@ -179,6 +260,7 @@ public final class SettingsTest {
     }
 
     private static void setRules() {
+        check.says(6, "Sets the age, whether requests store, and the limit of hops for texts. Recorded.");
         DigestCaches x = new DigestCaches();
         check.due("setRules(10, false, 0)", x.setRules(10, false, 0), 100);
         x.request(0, 1, 0);
@@ -198,6 +280,7 @@ public final class SettingsTest {
     }
 
     private static void setRulesBounds() {
+        check.says(6, "Returns the previous age; BAD_VALUE if age or limit is out of range.");
         DigestCaches x = new DigestCaches();
         check.due("setRules(-1, ..)", x.setRules(-1, true, 0), -3);
         check.due("setRules(1001, ..)", x.setRules(1001, true, 0), -3);
@@ -222,6 +305,7 @@ public final class SettingsTest {
     }
 
     private static void pass() {
+        check.says(7, "Lets time pass. Recorded.");
         DigestCaches x = new DigestCaches();
         check.due("pass(1)", x.pass(1), 1);
         check.due("pass(1000)", x.pass(1000), 1001);
@@ -234,6 +318,7 @@ public final class SettingsTest {
 
     /** 512 calls do not reach the limit of the time; the class keeps it beyond them all the same. */
     private static void passIsFull() {
+        check.says(7, "Returns the time then; BAD_VALUE if many is out of range; FULL if it would be above 1000000.");
         DigestCaches x = new DigestCaches();
         for (int i = 0; i < 999; i++) {
             x.pass(1000);

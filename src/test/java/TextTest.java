@@ -8,16 +8,27 @@ public final class TextTest {
     private static final Pattern LIST = list();
 
     public static void main(String[] args) {
+        tests();
+        check.end();
+    }
+
+    static void tests() {
         type();
         clearText();
+        roomForAHundred();
         faults();
+        everyByteAtEachPlace();
+        digitsOfNumbers();
+        blanks();
+        endsTooEarly();
         allShortTexts();
         longTexts();
         run();
+        runWithEachLimit();
+        runOfEachObject();
         runIsOneCall();
         runWrong();
         runOfTheLongestText();
-        check.end();
     }
 
     private static Pattern list() {
@@ -27,6 +38,8 @@ public final class TextTest {
     }
 
     private static void type() {
+        check.says(30, "Appends a byte to the text.", "Returns the length of the text; BAD_VALUE if code is out of range; "
+            + "FULL if the text has 100 bytes.");
         DigestCaches x = new DigestCaches();
         check.due("type(0)", x.type(0), 1);
         check.due("type(255)", x.type(255), 2);
@@ -43,6 +56,7 @@ public final class TextTest {
     }
 
     private static void clearText() {
+        check.says(31, "Empties the text.", "Returns the length that it had.");
         DigestCaches x = new DigestCaches();
         check.due("clearText()", x.clearText(), 0);
         Check.typed(x, "0:1");
@@ -52,11 +66,30 @@ public final class TextTest {
         check.due("not recorded", x.undo(), -4);
     }
 
+    private static void roomForAHundred() {
+        check.says(0, "Requests can be given by a text of at most 100 bytes with this grammar: list = request { \";\" "
+            + "request } request = cache \":\" number { \",\" number }");
+        String list = "0:12;4:345,6,78;".repeat(6) + "1:2;";
+        DigestCaches x = Check.typed(new DigestCaches(), list.substring(0, 99));
+        check.due("the last byte", x.type(';'), 100);
+        check.due("one more", x.type('0'), -5);
+        check.due("one more, though it is a blank", x.type(' '), -5);
+        check.due("a list of 100 bytes without its end", x.textFault(), 100);
+        check.due("run()", x.run(), -4);
+        check.due("clearText()", x.clearText(), 100);
+        String right = "0:12;4:345,6,78;".repeat(6) + "1:23";
+        check.due("a list of 100 bytes", Check.typed(x, right).textFault(), -1);
+        check.due("its 25 requests, of which 5 are new", x.run(), 25 - 5);
+        check.due("clearText()", x.clearText(), 100);
+        check.due("there is room again", x.type('0'), 1);
+    }
+
     private static void fault(String text, int due) {
         check.due("textFault of '" + text + "'", Check.typed(new DigestCaches(), text).textFault(), due);
     }
 
     private static void faults() {
+        check.says(32, "Checks the text.", "Returns its fault; NONE if it has none.");
         fault("", 0);
         fault("   ", 3);
         fault("0", 1);
@@ -92,6 +125,98 @@ public final class TextTest {
         fault("0:/", 2);
         fault("0:1/", 3);
         fault("/", 0);
+    }
+
+    /** The bytes that are allowed after a beginning; every other one of the 256 is the fault. */
+    private static void allowedAfter(String start, String allowed) {
+        for (int code = 0; code < 256; code++) {
+            DigestCaches x = Check.typed(new DigestCaches(), start);
+            x.type(code);
+            boolean right = allowed.indexOf(code) >= 0;
+            int got = x.textFault();
+            check.holds("the byte " + code + " after '" + start + "', fault " + got,
+                right ? got == -1 || got == start.length() + 1 : got == start.length());
+        }
+    }
+
+    private static void everyByteAtEachPlace() {
+        check.says(0, "The fault of the text is the position, from 0, of the first byte that is not allowed at its place "
+            + "(for a number with more than 3 digits its first digit), or the length of the text, if it ends too early "
+            + "(also if it is empty).");
+        check.says(0, "A cache is a digit, 0 to 4;");
+        String digits = "0123456789";
+        for (String start : new String[] {"", " ", "0:1;", "0:1 ; ", "4:999;"}) {
+            allowedAfter(start, "01234 ");
+        }
+        for (String start : new String[] {"0", " 4 ", "0:1;2", "0:1,5;3 "}) {
+            allowedAfter(start, ": ");
+        }
+        for (String start : new String[] {"0:", "0: ", "0:1,", "3:12 , ", "0:1;2:"}) {
+            allowedAfter(start, digits + " ");
+        }
+        for (String start : new String[] {"0:1", "0:12", "0: 0", "4:999,00", "0:1;2:34"}) {
+            allowedAfter(start, digits + ",; ");
+        }
+        for (String start : new String[] {"0:1 ", "0:12  ", "0:123 ", "0:1,2 ", "0:1;2:3 "}) {
+            allowedAfter(start, ",; ");
+        }
+        fault("0:1x,y", 3);
+        fault("x0:1", 0);
+        fault("0:1;4:2;5:3", 8);
+    }
+
+    private static void digitsOfNumbers() {
+        check.says(0, "a number has 1 to 3 digits.");
+        for (String start : new String[] {"0:", "4: ", "0:1,", "0:1 ,  ", "0:1;2:", "0:999,"}) {
+            fault(start, start.length());
+            for (int digits = 1; digits <= 6; digits++) {
+                int due = digits <= 3 ? -1 : start.length();
+                fault(start + "7".repeat(digits), due);
+                fault(start + "0".repeat(digits), due);
+                fault(start + "7".repeat(digits) + " ", due);
+                fault(start + "7".repeat(digits) + ",1", due);
+                fault(start + "7".repeat(digits) + ";1:1", due);
+                fault(start + "7".repeat(digits) + "x", digits <= 3 ? start.length() + digits : start.length());
+            }
+        }
+        fault("0:" + "1".repeat(98), 2);
+        fault(" ".repeat(94) + "0:1234", 96);
+        fault(" ".repeat(95) + "0:123", -1);
+    }
+
+    private static void blanks() {
+        check.says(0, "Blanks (32) may stand anywhere except within numbers (a blank ends a number).");
+        String list = "0:12,345;4:6";
+        for (int at = 0; at <= list.length(); at++) {
+            boolean within = at > 0 && at < list.length() && Character.isDigit(list.charAt(at - 1))
+                && Character.isDigit(list.charAt(at));
+            for (int many = 1; many <= 3; many++) {
+                int due = within ? at + many : -1;
+                fault(list.substring(0, at) + " ".repeat(many) + list.substring(at), due);
+            }
+        }
+        fault(" ".repeat(100), 100);
+        DigestCaches x = Check.typed(new DigestCaches(), " 0 : 12 , 345 ; 4 : 6 ");
+        check.due("run()", x.run(), 0);
+        check.due("held(0, 0)", x.held(0, 0), 345);
+        check.due("held(0, 1)", x.held(0, 1), 12);
+        check.due("held(4, 0)", x.held(4, 0), 6);
+    }
+
+    /** Each beginning of a list: it ends too early, or it is a list itself. */
+    private static void endsTooEarly() {
+        String list = " 0 : 1 , 23 ; 4:567,8;1:9";
+        for (int length = 0; length <= list.length(); length++) {
+            String start = list.substring(0, length).trim();
+            boolean whole = !start.isEmpty() && Character.isDigit(start.charAt(start.length() - 1))
+                && start.lastIndexOf(':') > start.lastIndexOf(';');
+            fault(list.substring(0, length), whole ? -1 : length);
+        }
+        DigestCaches x = new DigestCaches();
+        check.due("an empty text", x.textFault(), 0);
+        check.due("run() of it", x.run(), -4);
+        Check.typed(x, "0:1").clearText();
+        check.due("a text that was emptied", x.textFault(), 0);
     }
 
     /** The fault as the pattern of the whole list tells it: the first byte after which no list can follow. */
@@ -147,6 +272,7 @@ public final class TextTest {
     }
 
     private static void run() {
+        check.says(33, "Makes the requests of the text, in their order.");
         DigestCaches x = Check.typed(new DigestCaches(), " 0 : 1 , 002 ,1; 4:999, 1;0:2 ");
         check.due("run()", x.run(), 2);
         check.due("held(0, 0)", x.held(0, 0), 2);
@@ -175,7 +301,46 @@ public final class TextTest {
         check.due("way(3)", y.way(3), 3);
     }
 
+    private static void runWithEachLimit() {
+        check.says(0, "Each number is a request at this cache, with the limit of hops that is set for texts (2 at first).");
+        DigestCaches x = Check.typed(new DigestCaches(), "0:17,351;0:399");
+        for (int cache = 1; cache < 5; cache++) {
+            x.store(cache, 17);
+            x.publish(cache);
+            x.drop(cache, 17);
+        }
+        check.due("run(): all three have the same bits", x.run(), 0);
+        check.due("hops at first", x.count(0, 5), 3 * 2);
+        x.undo();
+        for (int limit = 0; limit <= 4; limit++) {
+            x.setRules(100, false, limit);
+            check.due("run()", x.run(), 0);
+            check.due("hops with " + limit, x.count(0, 5), 3 * limit);
+            check.due("too high", x.setRules(100, true, 5), -3);
+            check.due("too low", x.setRules(100, true, -1), -3);
+            check.due("a request with a limit of its own", x.request(0, 17, 4 - limit), 5);
+            check.due("its hops", x.count(0, 5), 3 * limit + 4 - limit);
+            x.undo();
+            check.due("run() again", x.run(), 0);
+            check.due("hops with " + limit, x.count(0, 5), 6 * limit);
+            x.undo();
+            x.undo();
+        }
+    }
+
+    private static void runOfEachObject() {
+        for (int object = 0; object < 1000; object++) {
+            DigestCaches x = Check.typed(new DigestCaches(), object % 5 + ":" + object);
+            check.due("run()", x.run(), 0);
+            check.due("it asked for", x.held(object % 5, 0), object);
+            Check.typed(x, object % 5 + ":" + "0".repeat(3 - ("" + object).length()) + object);
+            check.due("with zeros before it", x.run(), 1);
+            check.due("size", x.size(object % 5), 1);
+        }
+    }
+
     private static void runIsOneCall() {
+        check.says(33, "Recorded, as one call.");
         DigestCaches x = Check.typed(new DigestCaches(), "0:1,2,3,4,5;1:6,7");
         x.pass(1);
         long before = x.digest();
@@ -188,6 +353,7 @@ public final class TextTest {
     }
 
     private static void runWrong() {
+        check.says(33, "Returns how many of them the origin did not serve; BAD_STATE if the text has a fault.");
         DigestCaches x = Check.typed(new DigestCaches(), "0:1,2;3:4x");
         long before = x.digest();
         check.refused("run()", x, x.run(), -4, before);
