@@ -38,6 +38,21 @@ final class Check {
         due(call + ", then digest()", x.digest(), digestBefore);
     }
 
+    /** Checks that the way of the latest request went over these caches and no more. */
+    void route(DigestCaches x, int... caches) {
+        for (int index = 0; index < caches.length; index++) {
+            due("way(" + index + ")", x.way(index), caches[index]);
+        }
+        due("way(" + caches.length + ")", x.way(caches.length), -1);
+    }
+
+    /** Checks the counts of a cache, from 0 on. */
+    void counts(DigestCaches x, int cache, int... counts) {
+        for (int what = 0; what < counts.length; what++) {
+            due("count(" + cache + ", " + what + ")", x.count(cache, what), counts[what]);
+        }
+    }
+
     /** Prints what was found and ends the program with exit code 1 if an answer was wrong. */
     void end() {
         System.out.println(name + ": " + asked + " answers, " + wrong + " not as due");
@@ -51,6 +66,17 @@ final class Check {
         x.clearText();
         for (int i = 0; i < text.length(); i++) {
             x.type(text.charAt(i));
+        }
+        return x;
+    }
+
+    /** The caches given hold the object when they publish; afterwards they hold it no more. */
+    static DigestCaches wronglyExpected(int object, int... caches) {
+        DigestCaches x = new DigestCaches();
+        for (int cache : caches) {
+            x.store(cache, object);
+            x.publish(cache);
+            x.drop(cache, object);
         }
         return x;
     }

@@ -159,14 +159,20 @@ public final class ErrorsTest {
         }
         List<Long> before = Whole.seen(maker);
         for (int from = 0; from < refused.size(); from += REFUSED_AT_ONCE) {
-            List<int[]> some = refused.subList(from, Math.min(refused.size(), from + REFUSED_AT_ONCE));
-            List<Long> after = Whole.seen(() -> {
-                DigestCaches x = maker.get();
-                some.forEach(mix -> answer(call, x, mix));
-                return x;
-            });
-            check.holds("refused calls of " + call.name + " change nothing", before.equals(after));
+            unchanged(call, maker, before, refused.subList(from, Math.min(refused.size(), from + REFUSED_AT_ONCE)));
         }
+        // One call alone, since the second of two could undo what the first one does.
+        unchanged(call, maker, before, refused.subList(0, 1));
+        unchanged(call, maker, before, refused.subList(refused.size() - 1, refused.size()));
+    }
+
+    private static void unchanged(Call call, Supplier<DigestCaches> maker, List<Long> before, List<int[]> refused) {
+        List<Long> after = Whole.seen(() -> {
+            DigestCaches x = maker.get();
+            refused.forEach(mix -> answer(call, x, mix));
+            return x;
+        });
+        check.holds(refused.size() + " refused calls of " + call.name + " change nothing", before.equals(after));
     }
 
     private static void accepted(Call call, DigestCaches x, int[] mix) {
@@ -324,7 +330,6 @@ public final class ErrorsTest {
             check.holds("drop of what is not held, with " + states, before.equals(Whole.seen(() -> {
                 DigestCaches x = Whole.busy(kept);
                 check.due("drop(0, 17)", x.drop(0, 17), BAD_STATE);
-                check.due("drop(2, 5)", x.drop(2, 5), BAD_STATE);
                 return x;
             })));
             Supplier<DigestCaches> faulty = () -> Check.typed(Whole.busy(kept), "0:17,5;2:700,");
@@ -339,7 +344,6 @@ public final class ErrorsTest {
         check.holds("undo of an empty history", before.equals(Whole.seen(() -> {
             DigestCaches x = Whole.busy(0);
             check.due("undo()", x.undo(), BAD_STATE);
-            check.due("undo() again", x.undo(), BAD_STATE);
             return x;
         })));
     }
@@ -349,8 +353,26 @@ public final class ErrorsTest {
         check.holds("type beyond the room", before.equals(Whole.seen(() -> {
             DigestCaches x = Whole.full();
             check.due("type(49)", x.type('1'), FULL);
-            check.due("type(0)", x.type(0), FULL);
             return x;
         })));
+        // Only calls beyond the 512th can reach the end of the time.
+        List<Long> late = Whole.seen(ErrorsTest::atTheEndOfTime);
+        check.holds("pass beyond the end of the time", late.equals(Whole.seen(() -> {
+            DigestCaches x = atTheEndOfTime();
+            check.due("pass(2)", x.pass(2), FULL);
+            return x;
+        })));
+    }
+
+    private static DigestCaches atTheEndOfTime() {
+        DigestCaches x = Whole.busy(4);
+        for (int i = 0; i < 999; i++) {
+            x.pass(1000);
+        }
+        x.setLink(3, 1, false);
+        x.store(2, 1);
+        x.request(1, 2, 4);
+        check.due("1 before the end", x.pass(989), 999999);
+        return x;
     }
 }

@@ -19,19 +19,13 @@ public final class FaceTest {
     private static final Check check = new Check("FaceTest");
 
     public static void main(String[] args) throws IOException {
-        Path project = Path.of(args.length > 0 ? args[0] : ".");
-        Set<String> face = documentedMethods(Files.readString(project.resolve("../shared/DOC.md")));
-        methods(face);
+        methods(documentedMethods(Document.text()));
         constants();
         others();
         classesInside();
-        words(Files.readString(project.resolve("src/main/java/DigestCaches.java")));
+        words(Files.readString(Path.of("src/main/java/DigestCaches.java")));
         neverThrows();
         check.end();
-    }
-
-    private static void holds(String what, boolean is) {
-        check.due(what, is ? 1 : 0, 1);
     }
 
     private static Set<String> documentedMethods(String document) {
@@ -51,18 +45,18 @@ public final class FaceTest {
     }
 
     private static void methods(Set<String> face) {
-        holds("the document has 33 methods", face.size() == 33);
+        check.holds("the document has 33 methods", face.size() == 33);
         Set<String> found = new TreeSet<>();
         for (Method method : DigestCaches.class.getDeclaredMethods()) {
             int modifiers = method.getModifiers();
             if (Modifier.isPublic(modifiers)) {
                 found.add(written(method));
-                holds(method + " is not static", !Modifier.isStatic(modifiers));
+                check.holds(method + " is not static", !Modifier.isStatic(modifiers));
             } else {
-                holds(method + " is private", Modifier.isPrivate(modifiers));
+                check.holds(method + " is private", Modifier.isPrivate(modifiers));
             }
         }
-        holds("the public methods are " + face + ", not " + found, face.equals(found));
+        check.holds("the public methods are " + face + ", not " + found, face.equals(found));
     }
 
     private static void constants() {
@@ -77,16 +71,17 @@ public final class FaceTest {
                 names.add(field.getName());
             }
         }
-        holds("no other field is seen: " + names,
+        check.holds("no other field is seen: " + names,
             names.equals(List.of("NONE", "BAD_INDEX", "BAD_VALUE", "BAD_STATE", "FULL")));
     }
 
     private static void others() {
-        holds("the class is public and final", DigestCaches.class.getModifiers() == (Modifier.PUBLIC | Modifier.FINAL));
+        check.holds("the class is public and final",
+            DigestCaches.class.getModifiers() == (Modifier.PUBLIC | Modifier.FINAL));
         Constructor<?>[] made = DigestCaches.class.getDeclaredConstructors();
-        holds("one constructor", made.length == 1);
-        holds("it is public", Modifier.isPublic(made[0].getModifiers()));
-        holds("it takes nothing", made[0].getParameterCount() == 0);
+        check.holds("one constructor", made.length == 1);
+        check.holds("it is public", Modifier.isPublic(made[0].getModifiers()));
+        check.holds("it takes nothing", made[0].getParameterCount() == 0);
     }
 
     private static void classesInside() {
@@ -94,15 +89,15 @@ public final class FaceTest {
             .filter(method -> Modifier.isPublic(method.getModifiers())).map(Method::getName)
             .collect(Collectors.toSet());
         Class<?>[] inside = DigestCaches.class.getDeclaredClasses();
-        holds("at most twelve classes", inside.length < 12);
+        check.holds("at most twelve classes", inside.length < 12);
         fields(DigestCaches.class);
         for (Class<?> one : inside) {
-            holds(one + " is static", Modifier.isStatic(one.getModifiers()));
-            holds(one + " is not public", !Modifier.isPublic(one.getModifiers()));
+            check.holds(one + " is static", Modifier.isStatic(one.getModifiers()));
+            check.holds(one + " is not public", !Modifier.isPublic(one.getModifiers()));
             fields(one);
             for (Method method : one.getDeclaredMethods()) {
-                holds(method + " bears a name of its own", !face.contains(method.getName()));
-                holds(method + " takes at most seven", method.getParameterCount() <= 7);
+                check.holds(method + " bears a name of its own", !face.contains(method.getName()));
+                check.holds(method + " takes at most seven", method.getParameterCount() <= 7);
             }
         }
     }
@@ -113,13 +108,13 @@ public final class FaceTest {
         int own = 0;
         for (Field field : one.getDeclaredFields()) {
             if (Modifier.isStatic(field.getModifiers())) {
-                holds(field + " is final", Modifier.isFinal(field.getModifiers()));
-                holds(field + " is a constant", fixed.contains(field.getType()));
+                check.holds(field + " is final", Modifier.isFinal(field.getModifiers()));
+                check.holds(field + " is a constant", fixed.contains(field.getType()));
             } else {
                 own++;
             }
         }
-        holds(one + " has at most twenty fields", own <= 20);
+        check.holds(one + " has at most twenty fields", own <= 20);
     }
 
     private static void words(String source) {
@@ -128,11 +123,11 @@ public final class FaceTest {
             "Exact\\b", "\\bpackage\\b", "\\bstatic\\s*\\{", "\\bSystem\\.(?!arraycopy\\b)", "\\bMath\\.random\\b",
             "\\bvar\\b", "\\bprotected\\b", "\\bgoto\\b", "@"};
         for (String word : refused) {
-            holds("the source is without " + word, !Pattern.compile(word).matcher(code).find());
+            check.holds("the source is without " + word, !Pattern.compile(word).matcher(code).find());
         }
         Matcher imports = Pattern.compile("import ([^;]*);").matcher(code);
         while (imports.find()) {
-            holds("import " + imports.group(1),
+            check.holds("import " + imports.group(1),
                 List.of("java.util.Arrays", "java.util.ArrayList", "java.util.List").contains(imports.group(1)));
         }
     }
@@ -178,7 +173,7 @@ public final class FaceTest {
         try {
             method.invoke(x, arguments);
         } catch (ReflectiveOperationException thrown) {
-            holds(method.getName() + Arrays.toString(arguments) + " threw " + thrown.getCause(), false);
+            check.holds(method.getName() + Arrays.toString(arguments) + " threw " + thrown.getCause(), false);
         }
     }
 }

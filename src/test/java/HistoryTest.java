@@ -1,3 +1,4 @@
+import java.util.ArrayList;
 import java.util.List;
 import java.util.function.ToLongFunction;
 
@@ -142,39 +143,37 @@ public final class HistoryTest {
         check.says(19, "Nothing is changed.");
         check.says(28, "without anything being changed.");
         List<Long> before = Whole.seen(() -> Whole.busy(4));
-        check.holds("questions change nothing", before.equals(Whole.seen(() -> {
+        for (ToLongFunction<DigestCaches> question : questions()) {
+            check.holds("questions change nothing", before.equals(Whole.seen(() -> {
+                DigestCaches x = Whole.busy(4);
+                question.applyAsLong(x);
+                return x;
+            })));
+        }
+        check.holds("nor do all of them", before.equals(Whole.seen(() -> {
             DigestCaches x = Whole.busy(4);
-            for (int cache = 0; cache < 5; cache++) {
-                askOf(x, cache);
-            }
-            x.value(17, 2);
-            x.way(0);
-            x.textFault();
-            x.digest();
+            questions().forEach(question -> question.applyAsLong(x));
             return x;
         })));
     }
 
-    private static void askOf(DigestCaches x, int cache) {
-        int other = (cache + 1) % 5;
-        x.size(cache);
-        x.held(cache, 0);
-        x.holds(cache, 17);
-        x.counter(cache, 3);
-        x.mayHold(cache, 17);
-        x.chance(cache);
-        x.wrong(cache);
-        x.sized(cache, 1000);
-        x.sized(cache, 0);
-        x.version(cache);
-        for (int what = 0; what < 5; what++) {
-            x.copy(cache, other, what);
+    private static List<ToLongFunction<DigestCaches>> questions() {
+        List<ToLongFunction<DigestCaches>> asked = new ArrayList<>();
+        for (int number = 0; number < 5; number++) {
+            int cache = number;
+            int other = (number + 1) % 5;
+            asked.addAll(List.of(x -> x.size(cache), x -> x.held(cache, 0), x -> x.holds(cache, 17),
+                x -> x.counter(cache, 3), x -> x.mayHold(cache, 17), x -> x.chance(cache), x -> x.wrong(cache)));
+            asked.addAll(List.of(x -> x.sized(cache, 1000), x -> x.sized(cache, 0), x -> x.version(cache)));
+            for (int property = 0; property < 5; property++) {
+                int what = property;
+                asked.add(x -> x.copy(cache, other, what));
+            }
+            asked.addAll(List.of(x -> x.mask(cache, other), x -> x.expects(cache, other, 17), x -> x.count(cache, 6),
+                x -> x.wouldServe(cache, 17), x -> x.wouldServe(cache, 999)));
         }
-        x.mask(cache, other);
-        x.expects(cache, other, 17);
-        x.count(cache, 6);
-        x.wouldServe(cache, 17);
-        x.wouldServe(cache, 999);
+        asked.addAll(List.of(x -> x.value(17, 2), x -> x.way(0), x -> x.textFault(), x -> x.digest()));
+        return asked;
     }
 
     private static void textIsNotRestored() {

@@ -407,6 +407,10 @@ public final class ObjectsTest {
         }
         check.due("64 counters and 4 functions", x.sized(1, 1), 644);
         check.due("there are none", x.sized(1, 0), -1);
+        for (int object : new int[] {441, 258, 721}) {
+            x.store(2, object);
+        }
+        check.due("the bit 63 counts too", x.sized(2, 0), -1);
     }
 
     /** Every limit, against the chance that a filter so set has, of one object and of sixteen. */

@@ -1,3 +1,5 @@
+import java.util.Arrays;
+
 /** Promises 25 to 29 and 34: requests, their ways and counts, the history, the hash. */
 public final class RequestsTest {
     private static final Check check = new Check("RequestsTest");
@@ -27,38 +29,14 @@ public final class RequestsTest {
         digest();
     }
 
-    private static void counts(DigestCaches x, int cache, int... due) {
-        for (int what = 0; what < due.length; what++) {
-            check.due("count(" + cache + ", " + what + ")", x.count(cache, what), due[what]);
-        }
-    }
-
-    private static void route(DigestCaches x, int... due) {
-        for (int index = 0; index < due.length; index++) {
-            check.due("way(" + index + ")", x.way(index), due[index]);
-        }
-        check.due("way beyond", x.way(due.length), -1);
-    }
-
-    /** The caches given hold the object when they publish; afterwards they hold it no more. */
-    private static DigestCaches wronglyExpected(int object, int... caches) {
-        DigestCaches x = new DigestCaches();
-        for (int cache : caches) {
-            x.store(cache, object);
-            x.publish(cache);
-            x.drop(cache, object);
-        }
-        return x;
-    }
-
     private static void ownObject() {
         DigestCaches x = new DigestCaches();
         x.store(2, 17);
         x.store(2, 18);
         check.due("request(2, 17, 4)", x.request(2, 17, 4), 2);
         check.due("it is used", x.held(2, 0), 17);
-        counts(x, 2, 1, 0, 0, 0, 0, 0, 0);
-        route(x, 2);
+        check.counts(x, 2, 1, 0, 0, 0, 0, 0, 0);
+        check.route(x, 2);
     }
 
     private static void otherCache() {
@@ -69,9 +47,9 @@ public final class RequestsTest {
         check.due("request(0, 17, 1)", x.request(0, 17, 1), 4);
         check.due("the one that serves uses it", x.held(4, 0), 17);
         check.due("c stores it", x.held(0, 0), 17);
-        counts(x, 0, 0, 1, 0, 0, 0, 1, 0);
-        counts(x, 4, 0, 0, 0, 0, 0, 0, 16 + 4);
-        route(x, 0, 4);
+        check.counts(x, 0, 0, 1, 0, 0, 0, 1, 0);
+        check.counts(x, 4, 0, 0, 0, 0, 0, 0, 16 + 4);
+        check.route(x, 0, 4);
         x.setRules(100, false, 2);
         check.due("request(1, 17, 1)", x.request(1, 17, 1), 4);
         check.due("storing is off", x.size(1), 0);
@@ -81,20 +59,20 @@ public final class RequestsTest {
         DigestCaches x = new DigestCaches();
         check.due("request(3, 999, 4)", x.request(3, 999, 4), 5);
         check.due("c stores it", x.held(3, 0), 999);
-        counts(x, 3, 0, 0, 1, 0, 0, 0, 0);
-        route(x, 3);
+        check.counts(x, 3, 0, 0, 1, 0, 0, 0, 0);
+        check.route(x, 3);
         x.setRules(100, false, 2);
         check.due("request(3, 1, 0)", x.request(3, 1, 0), 5);
         check.due("storing is off", x.size(3), 1);
     }
 
     private static void falseHitAndMiss() {
-        DigestCaches x = wronglyExpected(17, 1);
+        DigestCaches x = Check.wronglyExpected(17, 1);
         x.store(4, 17);
         check.due("request(0, 17, 4)", x.request(0, 17, 4), 5);
-        counts(x, 0, 0, 0, 1, 1, 1, 1, 0);
-        counts(x, 1, 0, 0, 0, 0, 0, 0, 12);
-        route(x, 0, 1);
+        check.counts(x, 0, 0, 0, 1, 1, 1, 1, 0);
+        check.counts(x, 1, 0, 0, 0, 0, 0, 0, 12);
+        check.route(x, 0, 1);
         check.due("where it was not, it is not stored", x.size(1), 0);
     }
 
@@ -103,28 +81,28 @@ public final class RequestsTest {
         x.store(1, 17);
         x.publish(1);
         check.due("request(0, 17, 0)", x.request(0, 17, 0), 5);
-        counts(x, 0, 0, 0, 1, 0, 1, 0, 0);
-        route(x, 0);
+        check.counts(x, 0, 0, 0, 1, 0, 1, 0, 0);
+        check.route(x, 0);
         check.due("request(0, 17, 0), now held", x.request(0, 17, 0), 0);
-        DigestCaches y = wronglyExpected(17, 0, 1, 2, 3, 4);
+        DigestCaches y = Check.wronglyExpected(17, 0, 1, 2, 3, 4);
         for (int limit = 0; limit <= 4; limit++) {
             int[] due = {0, 1, 2, 3, 4};
             y.setRules(100, false, 2);
             check.due("request(0, 17, " + limit + ")", y.request(0, 17, limit), 5);
-            route(y, java.util.Arrays.copyOf(due, limit + 1));
+            check.route(y, Arrays.copyOf(due, limit + 1));
         }
-        counts(y, 0, 0, 0, 5, 10, 0, 10);
+        check.counts(y, 0, 0, 0, 5, 10, 0, 10);
     }
 
     private static void noFalseMissWhereItWas() {
-        DigestCaches x = wronglyExpected(17, 1, 2);
+        DigestCaches x = Check.wronglyExpected(17, 1, 2);
         check.due("nobody holds it", x.request(0, 17, 4), 5);
-        counts(x, 0, 0, 0, 1, 2, 0, 2, 0);
+        check.counts(x, 0, 0, 0, 1, 2, 0, 2, 0);
         x.drop(0, 17);
         x.setLink(0, 3, false);
         x.store(3, 17);
         check.due("a cache behind a link that is down", x.request(0, 17, 1), 5);
-        counts(x, 0, 0, 0, 2, 3, 1, 3, 0);
+        check.counts(x, 0, 0, 0, 2, 3, 1, 3, 0);
     }
 
     private static void nearestFirst() {
@@ -165,25 +143,25 @@ public final class RequestsTest {
         x.setLink(2, 0, false);
         x.setLink(2, 4, false);
         check.due("none is to be reached", x.request(2, 17, 1), 5);
-        counts(x, 2, 0, 3, 1, 0, 1, 3, 0);
+        check.counts(x, 2, 0, 3, 1, 0, 1, 3, 0);
     }
 
     private static void distanceFromWhereItIs() {
-        DigestCaches x = wronglyExpected(17, 1, 2);
+        DigestCaches x = Check.wronglyExpected(17, 1, 2);
         x.store(4, 17);
         x.publish(4);
         x.setLink(0, 4, false);
         x.setDistance(0, 2, 0);
         x.setDistance(2, 4, 50);
         check.due("request(0, 17, 4)", x.request(0, 17, 4), 4);
-        route(x, 0, 2, 1, 4);
-        counts(x, 0, 0, 1, 0, 2, 0, 3, 0);
-        DigestCaches y = wronglyExpected(17, 1);
+        check.route(x, 0, 2, 1, 4);
+        check.counts(x, 0, 0, 1, 0, 2, 0, 3, 0);
+        DigestCaches y = Check.wronglyExpected(17, 1);
         y.setLink(3, 0, false);
         y.store(3, 17);
         y.publish(3);
         check.due("1 expects it at 3, 0 does not", y.request(0, 17, 2), 3);
-        route(y, 0, 1, 3);
+        check.route(y, 0, 1, 3);
     }
 
     private static void storingDrops() {
@@ -209,7 +187,7 @@ public final class RequestsTest {
         check.refused("request(0, -1, 1)", x, x.request(0, -1, 1), -3, before);
         check.refused("request(0, 1, -1)", x, x.request(0, 1, -1), -3, before);
         check.refused("request(0, 1, 5)", x, x.request(0, 1, 5), -3, before);
-        route(x, 1);
+        check.route(x, 1);
         check.due("errors are not recorded", x.undo(), 0);
     }
 
@@ -220,7 +198,7 @@ public final class RequestsTest {
         check.due("way(-1)", x.way(-1), -3);
         check.due("way(0) without a request", x.way(0), -1);
         x.request(4, 1, 4);
-        route(x, 4);
+        check.route(x, 4);
         check.due("way(max)", x.way(Integer.MAX_VALUE), -1);
         check.due("way(min)", x.way(Integer.MIN_VALUE), -3);
         x.undo();
@@ -248,7 +226,7 @@ public final class RequestsTest {
         check.says(28, "Returns which cache would serve a request with the limit of 4 hops, without anything being "
             + "changed.", "Returns who would serve it, 0 to 5; BAD_INDEX if there is no such cache; BAD_VALUE if object is "
             + "out of range.");
-        DigestCaches x = wronglyExpected(17, 1, 2, 3);
+        DigestCaches x = Check.wronglyExpected(17, 1, 2, 3);
         x.store(4, 17);
         x.store(4, 18);
         x.publish(4);

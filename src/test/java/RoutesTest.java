@@ -1,3 +1,5 @@
+import java.util.Arrays;
+
 /** The description's words on how a request goes, sentence by sentence. */
 public final class RoutesTest {
     private static final Check check = new Check("RoutesTest");
@@ -25,30 +27,7 @@ public final class RoutesTest {
         storing();
         storingWhereThereIsNoRoom();
         counts();
-    }
-
-    private static void route(DigestCaches x, int... due) {
-        for (int index = 0; index < due.length; index++) {
-            check.due("way(" + index + ")", x.way(index), due[index]);
-        }
-        check.due("way(" + due.length + ")", x.way(due.length), -1);
-    }
-
-    private static void counted(DigestCaches x, int cache, int... due) {
-        for (int what = 0; what < due.length; what++) {
-            check.due("count(" + cache + ", " + what + ")", x.count(cache, what), due[what]);
-        }
-    }
-
-    /** All others expect the object at these caches, which do not hold it. */
-    private static DigestCaches wronglyExpected(int... caches) {
-        DigestCaches x = new DigestCaches();
-        for (int cache : caches) {
-            x.store(cache, ASKED);
-            x.publish(cache);
-            x.drop(cache, ASKED);
-        }
-        return x;
+        countsAddUp();
     }
 
     /** All others expect the object at these caches, which hold it. */
@@ -64,7 +43,7 @@ public final class RoutesTest {
     private static void limits() {
         check.says(0, "A request for an object at a cache c, with a limit of hops, 0 to 4, goes like this.");
         for (int limit = -1; limit <= 5; limit++) {
-            DigestCaches x = wronglyExpected(0, 1, 2, 3, 4);
+            DigestCaches x = Check.wronglyExpected(ASKED, 0, 1, 2, 3, 4);
             boolean there = limit >= 0 && limit <= 4;
             check.due("request with " + limit, x.request(2, ASKED, limit), there ? 5 : -3);
             check.due("hops with " + limit, x.count(2, 5), there ? limit : 0);
@@ -76,10 +55,10 @@ public final class RoutesTest {
         for (int cache = 0; cache < 5; cache++) {
             DigestCaches x = new DigestCaches();
             check.due("request(" + cache + ", 999, 4)", x.request(cache, 999, 4), 5);
-            route(x, cache);
+            check.route(x, cache);
             check.due("no hops", x.count(cache, 5), 0);
             check.due("now it is held", x.request(cache, 999, 4), cache);
-            route(x, cache);
+            check.route(x, cache);
             check.due("no hops", x.count(cache, 5), 0);
         }
     }
@@ -93,7 +72,7 @@ public final class RoutesTest {
             x.store(3, 1);
             check.due("request(3, 17, " + limit + ")", x.request(3, ASKED, limit), 3);
             check.due("it is used", x.held(3, 0), ASKED);
-            route(x, 3);
+            check.route(x, 3);
             x.store(1, 2);
             x.drop(0, ASKED);
             check.due("request(0, 17, " + limit + ")", x.request(0, ASKED, limit), limit == 0 ? 5 : 1);
@@ -105,7 +84,7 @@ public final class RoutesTest {
     private static void holderServesAtTheLastHop() {
         int[] wrong = {1, 2, 3};
         for (int hops = 1; hops <= 4; hops++) {
-            DigestCaches x = wronglyExpected(java.util.Arrays.copyOf(wrong, hops - 1));
+            DigestCaches x = Check.wronglyExpected(ASKED, Arrays.copyOf(wrong, hops - 1));
             x.store(4, ASKED);
             x.publish(4);
             check.due("too few hops", x.request(0, ASKED, hops - 1), 5);
@@ -120,10 +99,10 @@ public final class RoutesTest {
     private static void hopsEndAtTheLimit() {
         int[] due = {4, 3, 2, 1, 0};
         for (int limit = 0; limit <= 4; limit++) {
-            DigestCaches x = wronglyExpected(0, 1, 2, 3, 4);
+            DigestCaches x = Check.wronglyExpected(ASKED, 0, 1, 2, 3, 4);
             check.due("request(4, 17, " + limit + ")", x.request(4, ASKED, limit), 5);
-            route(x, java.util.Arrays.copyOf(due, limit + 1));
-            counted(x, 4, 0, 0, 1, limit, 0, limit);
+            check.route(x, Arrays.copyOf(due, limit + 1));
+            check.counts(x, 4, 0, 0, 1, limit, 0, limit);
         }
     }
 
@@ -132,14 +111,14 @@ public final class RoutesTest {
         check.says(0, "Otherwise, if the number of hops is less than the limit, the next cache is sought: of those at which "
             + "the request has not been, to which the link from the cache at which it is is up, and at which this cache "
             + "expects the object, the one with the smallest distance from this cache, of several the lowest number.");
-        DigestCaches x = wronglyExpected(1, 2, 3);
+        DigestCaches x = Check.wronglyExpected(ASKED, 1, 2, 3);
         x.setDistance(1, 2, 0);
         x.setDistance(3, 2, 0);
         check.due("request(2, 17, 4)", x.request(2, ASKED, 4), 5);
-        route(x, 2, 1, 3);
-        DigestCaches y = wronglyExpected(0, 4);
+        check.route(x, 2, 1, 3);
+        DigestCaches y = Check.wronglyExpected(ASKED, 0, 4);
         check.due("request(0, 17, 4)", y.request(0, ASKED, 4), 5);
-        route(y, 0, 4);
+        check.route(y, 0, 4);
     }
 
     private static void onlyOverLinksThatAreUp() {
@@ -147,21 +126,21 @@ public final class RoutesTest {
             DigestCaches x = rightlyExpected(down);
             x.setLink(0, down, false);
             check.due("the link is down", x.request(0, ASKED, 4), 5);
-            counted(x, 0, 0, 0, 1, 0, 1, 0);
+            check.counts(x, 0, 0, 0, 1, 0, 1, 0);
             DigestCaches y = rightlyExpected(down);
             y.setLink(down, 0, false);
             check.due("the link back does not matter", y.request(0, ASKED, 4), down);
         }
-        DigestCaches x = wronglyExpected(1);
+        DigestCaches x = Check.wronglyExpected(ASKED, 1);
         x.store(2, ASKED);
         x.publish(2);
         x.setLink(0, 2, false);
         check.due("the link from where the request is counts", x.request(0, ASKED, 4), 2);
-        route(x, 0, 1, 2);
+        check.route(x, 0, 1, 2);
         x.undo();
         x.setLink(1, 2, false);
         check.due("both are down", x.request(0, ASKED, 4), 5);
-        route(x, 0, 1);
+        check.route(x, 0, 1);
     }
 
     private static void onlyWhereItIsExpected() {
@@ -173,19 +152,19 @@ public final class RoutesTest {
         check.due("just fresh", old.wouldServe(0, ASKED), 1);
         old.pass(1);
         check.due("not fresh", old.request(0, ASKED, 4), 5);
-        route(old, 0);
+        check.route(old, 0);
         DigestCaches unheard = new DigestCaches();
         unheard.setLink(1, 0, false);
         unheard.store(1, ASKED);
         unheard.publish(1);
         check.due("c has not heard of it", unheard.request(0, ASKED, 4), 5);
         check.due("another one has", unheard.request(2, ASKED, 4), 1);
-        DigestCaches others = wronglyExpected(2);
+        DigestCaches others = Check.wronglyExpected(ASKED, 2);
         others.setLink(1, 0, false);
         others.store(1, ASKED);
         others.publish(1);
         check.due("what the cache expects at which the request is", others.request(0, ASKED, 4), 1);
-        route(others, 0, 2, 1);
+        check.route(others, 0, 2, 1);
     }
 
     private static void smallestDistance() {
@@ -203,14 +182,14 @@ public final class RoutesTest {
         DigestCaches far = rightlyExpected(4);
         far.setDistance(1, 4, 99);
         check.due("99 is near enough", far.request(1, ASKED, 1), 4);
-        DigestCaches x = wronglyExpected(3);
+        DigestCaches x = Check.wronglyExpected(ASKED, 3);
         x.store(1, ASKED);
         x.publish(1);
         x.store(4, ASKED);
         x.publish(4);
         x.setDistance(0, 3, 0);
         check.due("from the cache at which the request is", x.request(0, ASKED, 2), 4);
-        route(x, 0, 3, 4);
+        check.route(x, 0, 3, 4);
     }
 
     private static void lowestNumber() {
@@ -232,18 +211,18 @@ public final class RoutesTest {
     private static void falseHits() {
         check.says(0, "If there is one, the request goes there, with one hop more; if it does not hold the object, that is "
             + "a false hit.");
-        DigestCaches x = wronglyExpected(1, 2);
+        DigestCaches x = Check.wronglyExpected(ASKED, 1, 2);
         x.store(3, ASKED);
         x.publish(3);
         check.due("request(0, 17, 4)", x.request(0, ASKED, 4), 3);
-        counted(x, 0, 0, 1, 0, 2, 0, 3, 0);
+        check.counts(x, 0, 0, 1, 0, 2, 0, 3, 0);
         DigestCaches y = rightlyExpected(1);
         check.due("request(0, 17, 1)", y.request(0, ASKED, 1), 1);
         check.due("a hit is no false hit", y.count(0, 3), 0);
         check.due("one hop", y.count(0, 5), 1);
         DigestCaches z = rightlyExpected(1);
         check.due("351 has the bits of 17", z.request(0, 351, 1), 5);
-        counted(z, 0, 0, 0, 1, 1, 0, 1, 0);
+        check.counts(z, 0, 0, 0, 1, 1, 0, 1, 0);
     }
 
     private static void falseMisses() {
@@ -251,13 +230,13 @@ public final class RoutesTest {
             + "not been holds it.");
         DigestCaches limited = rightlyExpected(1);
         check.due("no hops", limited.request(0, ASKED, 0), 5);
-        counted(limited, 0, 0, 0, 1, 0, 1, 0);
+        check.counts(limited, 0, 0, 0, 1, 0, 1, 0);
         DigestCaches several = new DigestCaches();
         for (int cache = 1; cache < 5; cache++) {
             several.store(cache, ASKED);
         }
         check.due("four hold it, which are not expected to", several.request(0, ASKED, 4), 5);
-        counted(several, 0, 0, 0, 1, 0, 1, 0);
+        check.counts(several, 0, 0, 0, 1, 0, 1, 0);
         for (int holder = 1; holder < 5; holder++) {
             DigestCaches x = new DigestCaches();
             x.store(holder, ASKED);
@@ -265,17 +244,17 @@ public final class RoutesTest {
             check.due("a false miss", x.count(0, 4), 1);
             check.due("none of the holder's", x.count(holder, 4), 0);
         }
-        DigestCaches later = wronglyExpected(1, 2, 3);
+        DigestCaches later = Check.wronglyExpected(ASKED, 1, 2, 3);
         later.store(4, ASKED);
         later.publish(4);
         check.due("it would have been the fourth", later.request(0, ASKED, 3), 5);
-        counted(later, 0, 0, 0, 1, 3, 1, 3);
+        check.counts(later, 0, 0, 0, 1, 3, 1, 3);
     }
 
     private static void noFalseMiss() {
-        DigestCaches nobody = wronglyExpected(1, 2, 3, 4);
+        DigestCaches nobody = Check.wronglyExpected(ASKED, 1, 2, 3, 4);
         check.due("nobody holds it", nobody.request(0, ASKED, 4), 5);
-        counted(nobody, 0, 0, 0, 1, 4, 0, 4);
+        check.counts(nobody, 0, 0, 0, 1, 4, 0, 4);
         DigestCaches served = rightlyExpected(1, 2);
         check.due("a cache serves it", served.request(0, ASKED, 4), 1);
         check.due("though 2 holds it", served.count(0, 4), 0);
@@ -287,7 +266,7 @@ public final class RoutesTest {
 
     private static void storing() {
         check.says(0, "Then, if c was not the one that served it, c stores the object, if storing is on (it is at first).");
-        DigestCaches x = wronglyExpected(1);
+        DigestCaches x = Check.wronglyExpected(ASKED, 1);
         x.store(2, ASKED);
         x.publish(2);
         check.due("another cache serves", x.request(0, ASKED, 4), 2);
@@ -330,22 +309,22 @@ public final class RoutesTest {
         check.says(0, "Each cache counts for its requests: 0 those that it served itself, 1 those that another cache "
             + "served, 2 those that the origin served, 3 false hits, 4 false misses, 5 hops; and 6 the units that it has "
             + "sent.");
-        DigestCaches x = wronglyExpected(1, 2);
+        DigestCaches x = Check.wronglyExpected(ASKED, 1, 2);
         x.setRules(100, false, 2);
         x.store(4, ASKED);
         x.publish(4);
-        counted(x, 0, 0, 0, 0, 0, 0, 0, 0);
+        check.counts(x, 0, 0, 0, 0, 0, 0, 0, 0);
         check.due("by another", x.request(0, ASKED, 3), 4);
-        counted(x, 0, 0, 1, 0, 2, 0, 3, 0);
+        check.counts(x, 0, 0, 1, 0, 2, 0, 3, 0);
         check.due("by the origin", x.request(0, ASKED, 2), 5);
-        counted(x, 0, 0, 1, 1, 4, 1, 5, 0);
+        check.counts(x, 0, 0, 1, 1, 4, 1, 5, 0);
         check.due("by itself", x.request(4, ASKED, 2), 4);
-        counted(x, 0, 0, 1, 1, 4, 1, 5, 0);
-        counted(x, 4, 1, 0, 0, 0, 0, 0, 12);
-        counted(x, 1, 0, 0, 0, 0, 0, 0, 12);
-        counted(x, 3, 0, 0, 0, 0, 0, 0, 0);
+        check.counts(x, 0, 0, 1, 1, 4, 1, 5, 0);
+        check.counts(x, 4, 1, 0, 0, 0, 0, 0, 12);
+        check.counts(x, 1, 0, 0, 0, 0, 0, 0, 12);
+        check.counts(x, 3, 0, 0, 0, 0, 0, 0, 0);
         check.due("wouldServe is no request", x.wouldServe(0, ASKED), 4);
-        counted(x, 0, 0, 1, 1, 4, 1, 5, 0);
+        check.counts(x, 0, 0, 1, 1, 4, 1, 5, 0);
         check.due("publish(4)", x.publish(4), 4);
         check.due("units are added", x.count(4, 6), 16);
         for (int to = 0; to < 4; to++) {
@@ -353,5 +332,19 @@ public final class RoutesTest {
         }
         check.due("publish(4) to none", x.publish(4), 0);
         check.due("units", x.count(4, 6), 16);
+    }
+
+    private static void countsAddUp() {
+        DigestCaches x = Check.wronglyExpected(ASKED, 1, 2);
+        x.setRules(100, false, 2);
+        x.store(4, ASKED);
+        x.publish(4);
+        x.store(0, 1);
+        for (int times = 1; times <= 3; times++) {
+            x.request(0, 1, 4);
+            x.request(0, ASKED, 4);
+            x.request(0, ASKED, 2);
+            check.counts(x, 0, times, times, times, 4 * times, times, 5 * times, 0);
+        }
     }
 }

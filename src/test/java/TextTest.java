@@ -303,12 +303,7 @@ public final class TextTest {
 
     private static void runWithEachLimit() {
         check.says(0, "Each number is a request at this cache, with the limit of hops that is set for texts (2 at first).");
-        DigestCaches x = Check.typed(new DigestCaches(), "0:17,351;0:399");
-        for (int cache = 1; cache < 5; cache++) {
-            x.store(cache, 17);
-            x.publish(cache);
-            x.drop(cache, 17);
-        }
+        DigestCaches x = Check.typed(Check.wronglyExpected(17, 1, 2, 3, 4), "0:17,351;0:399");
         check.due("run(): all three have the same bits", x.run(), 0);
         check.due("hops at first", x.count(0, 5), 3 * 2);
         x.undo();

@@ -23,34 +23,47 @@ final class Whole {
     static List<Long> seenButTheWay(Supplier<DigestCaches> maker) {
         List<Long> answers = new ArrayList<>();
         for (int undos = 0; undos <= MOST_STATES + 1; undos++) {
-            DigestCaches x = maker.get();
-            for (int i = 0; i < undos; i++) {
-                answers.add((long) x.undo());
-            }
-            look(x, answers);
+            // To look at one part may change another, so each look has an object of its own.
+            lookAtSettings(undone(maker, undos, answers), answers);
+            lookAtRequests(undone(maker, undos, answers), answers);
+            lookAtState(undone(maker, undos, answers), answers);
         }
         return answers;
     }
 
-    /** The hash tells what stands in it; what does not is told by what the object then does. */
-    private static void look(DigestCaches x, List<Long> answers) {
-        answers.add(x.digest());
-        answers.add((long) x.textFault());
-        answers.add((long) x.run());
-        answers.add(x.digest());
-        answers.add((long) x.clearText());
-        // A request that goes as far as the limit of texts lets it shows this limit, and whether c stores.
-        answers.add((long) Check.typed(x, "0:17").run());
-        answers.add(x.digest());
-        for (int cache = 0; cache < 5; cache++) {
-            answers.add((long) x.publish(cache));
+    private static DigestCaches undone(Supplier<DigestCaches> maker, int undos, List<Long> answers) {
+        DigestCaches x = maker.get();
+        for (int i = 0; i < undos; i++) {
+            answers.add((long) x.undo());
         }
-        answers.add(x.digest());
+        return x;
+    }
+
+    private static void lookAtSettings(DigestCaches x, List<Long> answers) {
         Check.pairs((from, to) -> {
             answers.add((long) x.setLink(from, to, true));
             answers.add((long) x.setDistance(from, to, 0));
         });
         answers.add((long) x.setRules(0, true, 0));
+    }
+
+    /** A request that goes as far as the limit of texts lets it shows this limit, and whether c stores. */
+    private static void lookAtRequests(DigestCaches x, List<Long> answers) {
+        answers.add((long) x.clearText());
+        answers.add((long) Check.typed(x, "0:17").run());
+        answers.add((long) x.count(0, 5));
+        answers.add((long) x.holds(0, 17));
+    }
+
+    private static void lookAtState(DigestCaches x, List<Long> answers) {
+        answers.add(x.digest());
+        answers.add((long) x.textFault());
+        answers.add((long) x.run());
+        answers.add(x.digest());
+        for (int cache = 0; cache < 5; cache++) {
+            answers.add((long) x.publish(cache));
+        }
+        answers.add(x.digest());
     }
 
     /** An object of which all parts of the state are other than at first, with some states in its history. */
