@@ -161,9 +161,20 @@ public final class ErrorsTest {
         for (int from = 0; from < refused.size(); from += REFUSED_AT_ONCE) {
             unchanged(call, maker, before, refused.subList(from, Math.min(refused.size(), from + REFUSED_AT_ONCE)));
         }
-        // One call alone, since the second of two could undo what the first one does.
-        unchanged(call, maker, before, refused.subList(0, 1));
-        unchanged(call, maker, before, refused.subList(refused.size() - 1, refused.size()));
+        // Each call with one fault alone too, since the second of two calls could undo what the first one does.
+        for (int[] mix : refused) {
+            if (faults(call, mix) == 1) {
+                unchanged(call, maker, before, List.of(mix));
+            }
+        }
+    }
+
+    private static int faults(Call call, int[] mix) {
+        int faults = call.pair && mix[0] == mix[1] ? 1 : 0;
+        for (int i = 0; i < mix.length; i++) {
+            faults += call.arguments.get(i).isWithin(mix[i]) ? 0 : 1;
+        }
+        return faults;
     }
 
     private static void unchanged(Call call, Supplier<DigestCaches> maker, List<Long> before, List<int[]> refused) {
@@ -369,10 +380,14 @@ public final class ErrorsTest {
         for (int i = 0; i < 999; i++) {
             x.pass(1000);
         }
-        x.setLink(3, 1, false);
-        x.store(2, 1);
         x.request(1, 2, 4);
         check.due("1 before the end", x.pass(989), 999999);
+        // Fresh digests that are wrong, for requests to follow.
+        for (int cache = 1; cache < 5; cache++) {
+            x.store(cache, 17);
+            x.publish(cache);
+            x.drop(cache, 17);
+        }
         return x;
     }
 }
