@@ -24,6 +24,7 @@ public final class RequestsTest {
         way();
         count();
         wouldServe();
+        wouldServeAtEachCache();
         undoRestoresAll();
         undoKeepsFour();
         digest();
@@ -243,6 +244,25 @@ public final class RequestsTest {
         check.due("3 hops are too few", x.request(0, 17, 3), 5);
         check.due("undo restores all", x.undo(), 3);
         check.due("digest()", x.digest(), before);
+    }
+
+    /** As a request with 4 hops at the same cache is served, wherever it is asked and however far it goes. */
+    private static void wouldServeAtEachCache() {
+        for (int holder = 0; holder < 5; holder++) {
+            DigestCaches x = Check.wronglyExpected(17, (holder + 1) % 5, (holder + 2) % 5);
+            x.store(holder, 17);
+            x.publish(holder);
+            x.store(holder, 18);
+            for (int cache = 0; cache < 5; cache++) {
+                check.due("wouldServe(" + cache + ", 17)", x.wouldServe(cache, 17), holder);
+                check.due("request(" + cache + ", 17, 4)", x.request(cache, 17, 4), holder);
+                x.undo();
+                int due = cache == holder ? holder : 5;
+                check.due("wouldServe(" + cache + ", 18), not published", x.wouldServe(cache, 18), due);
+                check.due("request(" + cache + ", 18, 4)", x.request(cache, 18, 4), due);
+                x.undo();
+            }
+        }
     }
 
     private static void undoRestoresAll() {
