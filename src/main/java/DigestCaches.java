@@ -34,7 +34,7 @@ public final class DigestCaches {
     private static final int COPY_FRESH = 3;
     private static final int COPY_DIFFERENCE = 4;
 
-    private final State state = new State();
+    private final State state = new State(new Shape());
     private final History history = new History();
     private final Text text = new Text();
     private final Walk latest = new Walk();
@@ -687,14 +687,15 @@ public final class DigestCaches {
 
     /** All that the history keeps: the settings, the time and the caches. */
     private static final class State {
-        final Shape shape = new Shape();
+        final Shape shape;
         final Cache[] caches = new Cache[CACHES];
         int time = 0;
         int age = 100;
         boolean storing = true;
         int textLimit = 2;
 
-        State() {
+        State(Shape shape) {
+            this.shape = shape;
             for (int cache = 0; cache < CACHES; cache++) {
                 caches[cache] = new Cache(shape, cache);
             }
@@ -855,7 +856,7 @@ public final class DigestCaches {
 
         History() {
             for (int i = 0; i < STATES; i++) {
-                states[i] = new State();
+                states[i] = new State(new Shape());
             }
         }
 

@@ -25,7 +25,7 @@ final class Check {
         due(what, is ? 1 : 0, 1);
     }
 
-    /** What follows tests these words of a promise, or of the description (part 0). */
+    /** What follows tests these words of a promise, of the description (part 0) or of what it is (part 35). */
     void says(int part, String... sentences) {
         for (String words : sentences) {
             holds("the document, part " + part + ", says: " + words, DOCUMENT.quote(part, words));

@@ -8,13 +8,15 @@ import java.util.List;
 import java.util.regex.Matcher;
 import java.util.regex.Pattern;
 
-/** The document's words, a part for the description and one for each promise, and which of them tests quote. */
+/** The document's words: the description, each promise and what it is, and which of them tests quote. */
 final class Document {
     static final int DESCRIPTION = 0;
     static final int PROMISES = 34;
+    static final int WHAT_IT_IS = PROMISES + 1;
+    static final int PARTS = PROMISES + 2;
 
-    private final String[] parts = new String[PROMISES + 1];
-    private final BitSet[] quoted = new BitSet[PROMISES + 1];
+    private final String[] parts = new String[PARTS];
+    private final BitSet[] quoted = new BitSet[PARTS];
 
     Document() {
         String whole = text();
@@ -22,7 +24,8 @@ final class Document {
         for (int promise = 1; promise <= PROMISES; promise++) {
             parts[promise] = part(whole, "Promise " + promise + ":[^\n]*");
         }
-        for (int part = 0; part <= PROMISES; part++) {
+        parts[WHAT_IT_IS] = part(whole, "What it is");
+        for (int part = 0; part < PARTS; part++) {
             quoted[part] = new BitSet();
         }
     }

